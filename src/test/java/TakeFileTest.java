@@ -8,6 +8,7 @@ public final class TakeFileTest {
         rootFolders(due);
         rootFoldersNeedAverages(due);
         otherFolders(due);
+        justEnough(due);
         wrongInputs(due);
         noneLeft(due);
         due.end();
@@ -111,6 +112,20 @@ public final class TakeFileTest {
         due.is("nor has 1: 2", 258, () -> x.takeFile(400, true));
         x.take(522, 246, false);
         due.is("2 neither, and 0 no file: the first with a file", 385, () -> x.takeFile(400, true));
+    }
+
+    private static void justEnough(Due due) {
+        GroupBitmaps x = new GroupBitmaps();
+        x.lay(2, 256);
+        fill(x, 129, 89);
+        due.is("39 free files, half of 78", 218, () -> x.takeFile(129, true));
+        due.is("38 free files, half of 78", 11, () -> x.takeFile(129, true));
+        x.take(12, 243, false);
+        due.is("one free block, a plain one", 12, () -> x.takeFile(1, false));
+        due.is("one free block, a folder", 13, () -> x.takeFile(1, true));
+        x.take(255, 1, false);
+        due.is("no free block, a plain one", 219, () -> x.takeFile(1, false));
+        due.is("no free block, and too few files behind", 14, () -> x.takeFile(1, true));
     }
 
     private static void wrongInputs(Due due) {
