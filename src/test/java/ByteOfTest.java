@@ -1,117 +1,114 @@
-/** Promise 11: the bytes of the blocks, as the terms say. */
+/** Promise 11: the bytes of all blocks; those of the bitmaps and of block 1 have tests of their own, too. */
 public final class ByteOfTest {
-    private static final int[] BLOCK_BITMAPS = {2, 258, 512, 770};
-
     public static void main(String[] args) {
         Due due = new Due();
-        newVolume(due);
-        table(due);
-        bits(due);
-        smallVolume(due);
-        wrongInputs(due);
+        corners(due);
+        blocksOfNoMatter(due);
+        takenBlocksOfNoMatter(due);
+        blocksOfNoGroup(due);
+        bitmapsOfNoGroup(due);
+        refusedBlocks(due);
+        refusedBytes(due);
+        changesNothing(due);
         due.end();
     }
 
-    private static void newVolume(Due due) {
+    /** "Byte i (0 .. 4,095) of a block: 0 .. 255": blocks 0 and 1,023, and of each bitmap and block 1 both ends. */
+    private static void corners(Due due) {
         GroupBitmaps x = new GroupBitmaps();
-        for (int block = 0; block < 1024; block++) {
-            for (int i = 0; i < 4096; i += block < 4 ? 1 : 31) {
-                int at = block;
-                int index = i;
-                due.is("byteOf(" + at + ", " + i + ")", newByte(block, i), () -> x.byteOf(at, index));
+        int[] blocks = {0, 1023, 1, 2, 3, 258, 259, 512, 513, 770, 771};
+        int[] first = {0, 0, 2, 255, 255, 255, 0, 255, 0, 255, 0};
+        for (int k = 0; k < blocks.length; k++) {
+            int block = blocks[k];
+            due.is("byteOf(" + block + ", 0)", first[k], () -> x.byteOf(block, 0));
+            due.is("byteOf(" + block + ", 4095)", k < 3 ? 0 : 255, () -> x.byteOf(block, 4095));
+        }
+    }
+
+    /** "All other blocks are of no matter here (their bytes are 0)." */
+    private static void blocksOfNoMatter(Due due) {
+        Lookers all = new Lookers(GroupBitmaps::new);
+        for (int b = 0; b < 1024; b++) {
+            int block = b;
+            for (int i : new int[] {0, 1, 15, 16, 31, 32, 127, 128, 2048, 4094, 4095}) {
+                if (!hasBytes(b)) {
+                    due.is("byteOf(" + b + ", " + i + ")", 0, () -> all.next().byteOf(block, i));
+                }
             }
         }
     }
 
-    private static int newByte(int block, int i) {
-        for (int g = 0; g < 4; g++) {
-            if (block == 1 && i / 32 == g) {
-                return newTableByte(g, i % 32);
-            }
-            if (block == BLOCK_BITMAPS[g]) {
-                return i == 0 || i >= 32 ? 255 : i > 1 ? 0 : g == 2 ? 3 : 15;
-            }
-            if (block == BLOCK_BITMAPS[g] + 1) {
-                return i >= 16 ? 255 : g > 0 ? 0 : i == 0 ? 255 : i == 1 ? 3 : 0;
-            }
-        }
-        return 0;
+    private static boolean hasBytes(int block) {
+        boolean pair = block == 512 || block == 513;
+        return block == 1 || pair || block / 256 != 2 && (block % 256 == 2 || block % 256 == 3);
     }
 
-    private static int newTableByte(int g, int at) {
-        int place = BLOCK_BITMAPS[g];
-        int[] row = {
-            place % 256, place / 256, 0, 0, place % 256 + 1, place / 256, 0, 0,
-            place % 256 + 2, place / 256, 0, 0, g == 2 ? 246 : 244, 0, g == 0 ? 118 : 128, 0,
-        };
-        return at < row.length ? row[at] : 0;
-    }
-
-    private static void table(Due due) {
+    /** Also when they are taken, and given again. */
+    private static void takenBlocksOfNoMatter(Due due) {
         GroupBitmaps x = new GroupBitmaps();
-        x.take(600, 6, false);
-        x.takeFile(257, true);
-        x.takeFile(257, false);
-        x.takeFile(257, true);
-        due.is("free blocks", 240, () -> x.byteOf(1, 76));
-        due.is("free files", 125, () -> x.byteOf(1, 78));
-        due.is("folders", 2, () -> x.byteOf(1, 80));
-        x.give(601, 2);
-        x.giveFile(257, true);
-        due.is("free blocks, some given", 242, () -> x.byteOf(1, 76));
-        due.is("free files, one given", 126, () -> x.byteOf(1, 78));
-        due.is("folders, one given", 1, () -> x.byteOf(1, 80));
-        due.is("group 1 beside it", 128, () -> x.byteOf(1, 46));
+        x.take(12, 244, false);
+        x.take(1000, 24, false);
+        due.is("byteOf(12, 0)", 0, () -> x.byteOf(12, 0));
+        due.is("byteOf(255, 4095)", 0, () -> x.byteOf(255, 4095));
+        due.is("byteOf(1023, 0)", 0, () -> x.byteOf(1023, 0));
+        x.give(1000, 24);
+        due.is("byteOf(1023, 4095)", 0, () -> x.byteOf(1023, 4095));
+        x.takeFile(1, true);
+        due.is("byteOf(4, 0), of records", 0, () -> x.byteOf(4, 0));
+        due.is("byteOf(0, 0), a head", 0, () -> x.byteOf(0, 0));
+        due.is("byteOf(257, 0), a head", 0, () -> x.byteOf(257, 0));
     }
 
-    /** Folders are counted over 255 when they are given back as plain files. */
-    private static void bits(Due due) {
-        GroupBitmaps x = new GroupBitmaps();
-        x.take(14, 3, false);
-        due.is("blocks 14, 15", 207, () -> x.byteOf(2, 1));
-        due.is("block 16", 1, () -> x.byteOf(2, 2));
-        x.takeFile(1, false);
-        due.is("file 11", 7, () -> x.byteOf(3, 1));
-        x.take(1023, 1, false);
-        due.is("block 1,023", 128, () -> x.byteOf(770, 31));
-        for (int k = 0; k < 240; k++) {
-            x.takeFile(129, true);
-            x.giveFile(129, false);
+    /** "(Blocks 0 .. 1,023, in a group or not)." */
+    private static void blocksOfNoGroup(Due due) {
+        GroupBitmaps x = Make.laid(1, 16);
+        for (int block : new int[] {16, 17, 255, 256, 300, 511, 514, 767, 772, 1022, 1023}) {
+            due.is("byteOf(" + block + ", 0) in no group", 0, () -> x.byteOf(block, 0));
+            due.is("byteOf(" + block + ", 4095) in no group", 0, () -> x.byteOf(block, 4095));
+            due.misses("byteOf(" + block + ", 4096) in no group", () -> x.byteOf(block, 4096));
+            due.misses("byteOf(" + block + ", -1) in no group", () -> x.byteOf(block, -1));
         }
-        for (int k = 0; k < 20; k++) {
-            x.takeFile(129, true);
-        }
-        due.is("260 folders, low byte", 4, () -> x.byteOf(1, 48));
-        due.is("260 folders, high byte", 1, () -> x.byteOf(1, 49));
+        due.misses("byteOf(1024, 0)", () -> x.byteOf(1024, 0));
     }
 
-    private static void smallVolume(Due due) {
+    /** Bitmaps of groups that there are no more are in no group, and have their bytes still. */
+    private static void bitmapsOfNoGroup(Due due) {
         GroupBitmaps x = new GroupBitmaps();
-        x.lay(2, 19);
-        due.is("the last block's byte", 248, () -> x.byteOf(258, 2));
-        due.is("behind the last block", 255, () -> x.byteOf(258, 3));
-        due.is("behind it, to the end", 255, () -> x.byteOf(258, 4095));
-        due.is("block 1 of group 1", 7, () -> x.byteOf(1, 44));
-        for (int i = 64; i < 128; i++) {
-            int index = i;
-            due.is("byteOf(1, " + i + ")", 0, () -> x.byteOf(1, index));
-        }
-        due.is("a bitmap that is no more", 3, () -> x.byteOf(512, 1));
-    }
-
-    private static void wrongInputs(Due due) {
-        GroupBitmaps x = new GroupBitmaps();
+        x.take(280, 3, false);
         x.lay(1, 16);
-        int[] blocks = {-1, 1024, Integer.MIN_VALUE, Integer.MAX_VALUE};
-        for (int block : blocks) {
-            due.misses("byteOf(" + block + ", 0)", () -> x.byteOf(block, 0));
+        due.is("byteOf(258, 0)", 255, () -> x.byteOf(258, 0));
+        due.is("byteOf(258, 3)", 7, () -> x.byteOf(258, 3));
+        due.is("byteOf(259, 15)", 0, () -> x.byteOf(259, 15));
+        due.is("byteOf(259, 16)", 255, () -> x.byteOf(259, 16));
+        due.is("byteOf(512, 1)", 3, () -> x.byteOf(512, 1));
+        due.is("byteOf(770, 1)", 15, () -> x.byteOf(770, 1));
+        due.is("byteOf(771, 4095)", 255, () -> x.byteOf(771, 4095));
+    }
+
+    /** "IndexOutOfBoundsException: there is none": the blocks beside 0 and 1,023. */
+    private static void refusedBlocks(Due due) {
+        GroupBitmaps x = new GroupBitmaps();
+        for (int block : new int[] {-1, 1024, 1025, -1024, Integer.MIN_VALUE, Integer.MAX_VALUE}) {
+            for (int i : new int[] {0, 4095, -1, 4096}) {
+                due.misses("byteOf(" + block + ", " + i + ")", () -> x.byteOf(block, i));
+            }
         }
-        int[] indexes = {-1, 4096, Integer.MIN_VALUE, Integer.MAX_VALUE};
-        for (int i : indexes) {
-            due.misses("byteOf(0, " + i + ")", () -> x.byteOf(0, i));
-            due.misses("byteOf(1, " + i + ")", () -> x.byteOf(1, i));
-            due.misses("byteOf(2, " + i + ")", () -> x.byteOf(2, i));
+    }
+
+    /** The bytes beside 0 and 4,095, of every kind of block. */
+    private static void refusedBytes(Due due) {
+        GroupBitmaps x = new GroupBitmaps();
+        for (int block : new int[] {0, 1, 2, 3, 4, 258, 259, 512, 513, 770, 771, 1023}) {
+            for (int i : new int[] {-1, 4096, -4096, 32768, Integer.MIN_VALUE, Integer.MAX_VALUE}) {
+                due.misses("byteOf(" + block + ", " + i + ")", () -> x.byteOf(block, i));
+            }
         }
-        due.is("byteOf(1023, 4095) in no group", 0, () -> x.byteOf(1023, 4095));
+    }
+
+    private static void changesNothing(Due due) {
+        due.changesNothing("byteOf(1, 0)", 2, Make::used, x -> x.byteOf(1, 0));
+        due.changesNothing("byteOf(258, 0)", 255, Make::used, x -> x.byteOf(258, 0));
+        due.changesNothing("byteOf(1024, 0)", Due.MISSED, Make::used, x -> x.byteOf(1024, 0));
+        due.changesNothing("byteOf(2, 4096)", Due.MISSED, Make::used, x -> x.byteOf(2, 4096));
     }
 }
